@@ -1337,76 +1337,56 @@ public final class FishReaders {
         }
 
         int markAsked() {
-            return isKind(kindOfOne, WANDERER) ? mark23() : markOfReader();
+            return isKind(kindOfOne, WANDERER) ? markOfWanderer() : markOfReader();
         }
 
-        // Each family asks by its own two methods, so that no body can come back to itself.
+        // A body asks the one of the broader kind for what it gives, so the narrowest begins first. Each family
+        // has its own size and mark, as they ask for one another: so no body can come back to itself.
 
         private int sizeOfReader() {
-            return kindOfOne == POET ? size12() : size11();
+            boolean isPoet = kindOfOne == POET;
+            if (isPoet) {
+                leave(12);
+            }
+            leave(11);
+            leave(10);
+            int size = dustOfOne + markOfReader();
+            return isPoet ? -size : size;
         }
 
         private int sizeOfWanderer() {
-            return kindOfOne == SCHOLAR ? size14() : size13();
+            boolean isScholar = kindOfOne == SCHOLAR;
+            if (isScholar) {
+                leave(14);
+            }
+            leave(13);
+            leave(10);
+            int size = dustOfOne - 100;
+            return isScholar ? 2 * size : size;
         }
 
         private int markOfReader() {
-            if (kindOfOne == POET) {
-                return mark24();
+            boolean isPoet = kindOfOne == POET;
+            boolean isCritic = kindOfOne == CRITIC;
+            if (isPoet) {
+                leave(24);
             }
-            return kindOfOne == CRITIC ? mark22() : mark21();
-        }
-
-        private int size10() {
-            leave(10);
-            return dustOfOne;
-        }
-
-        private int size11() {
-            leave(11);
-            int lent = size10();
-            return lent + markOfReader();
-        }
-
-        private int size12() {
-            leave(12);
-            return -size11();
-        }
-
-        private int size13() {
-            leave(13);
-            return size10() - 100;
-        }
-
-        private int size14() {
-            leave(14);
-            return 2 * size13();
-        }
-
-        private int mark20() {
-            leave(20);
-            return one;
-        }
-
-        private int mark21() {
+            if (isCritic) {
+                leave(22);
+            }
             leave(21);
-            return mark20() + placeOfOne;
+            leave(20);
+            int mark = one + placeOfOne;
+            if (isPoet) {
+                return 2 * mark;
+            }
+            return isCritic ? mark - 1000 : mark;
         }
 
-        private int mark22() {
-            leave(22);
-            return mark21() - 1000;
-        }
-
-        private int mark23() {
+        private int markOfWanderer() {
             leave(23);
-            int lent = mark20();
-            return lent - sizeOfWanderer();
-        }
-
-        private int mark24() {
-            leave(24);
-            return 2 * mark21();
+            leave(20);
+            return one - sizeOfWanderer();
         }
     }
 }
