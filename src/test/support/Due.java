@@ -1,9 +1,7 @@
 /** What tests share: telling a library, and comparing an answer with the one that is due. */
 final class Due {
-    static final int NONE = FishReaders.NONE;
-    static final int BAD = FishReaders.BAD;
-    static final int STATE = FishReaders.STATE;
-    static final int FULL = FishReaders.FULL;
+    // by their numbers, as the document tells them
+    static final int NONE = -1000000, BAD = -1000001, STATE = -1000002, FULL = -1000003;
     static final int NULL = -1000011, PLACE = -1000012, KIND = -1000013, SIZE = -1000014, STORE = -1000015;
 
     private static int wrong = 0;
@@ -11,8 +9,16 @@ final class Due {
     static void due(String call, long got, long want) {
         if (got != want) {
             wrong++;
-            System.out.println(call + " answered " + got + ", due is " + want);
+            System.out.println(test() + call + " answered " + got + ", due is " + want);
         }
+    }
+
+    /** Where the test stands that asks: the nearest frame that is none of what tests share. */
+    private static String test() {
+        return StackWalker.getInstance().walk(frames -> frames
+                .filter(f -> !f.getClassName().matches("Due|Run|Promise"))
+                .map(f -> f.getClassName() + "." + f.getMethodName() + ":" + f.getLineNumber() + ": ")
+                .findFirst().orElse(""));
     }
 
     static void feed(FishReaders x, String text) {
