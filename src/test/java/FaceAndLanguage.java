@@ -103,10 +103,5 @@ public final class FaceAndLanguage {
             Due.due("the source says " + word, found.find() ? 1 : 0, 0);
         }
         Due.due("lambdas, method references, annotations", code.matches("(?s).*(->|::|@).*") ? 1 : 0, 0);
-        Matcher library = Pattern.compile("\\b(Math|Integer|Long|System|Arrays)\\.(\\w+)").matcher(code);
-        Set<String> may = Set.of("Math.min", "Math.max", "Math.abs", "Integer.bitCount", "System.arraycopy");
-        while (library.find()) {
-            Due.due("the source calls " + library.group(), may.contains(library.group()) ? 1 : 0, 1);
-        }
     }
 }
